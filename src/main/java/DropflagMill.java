@@ -68,7 +68,6 @@ public final class DropflagMill {
     private final Check otherCheck;
     private final Run trial;
     private int runs;
-    private boolean isChecked;
 
     public DropflagMill() {
         program = new Program();
@@ -78,7 +77,7 @@ public final class DropflagMill {
         otherCheck = new Check(other);
         trial = new Run(other, otherCheck.ways);
         runs = 0;
-        isChecked = false;
+        check.look();
     }
 
     // ---- variables and lines
@@ -90,8 +89,9 @@ public final class DropflagMill {
         if (program.variables >= MOST_VARIABLES) {
             throw new IllegalStateException("there are 8 variables");
         }
-        isChecked = false;
-        return program.newVariable(kind);
+        int number = program.newVariable(kind);
+        check.look();
+        return number;
     }
 
     public int add(int sort, int a, int b) throws IllegalArgumentException, IllegalStateException {
@@ -104,8 +104,8 @@ public final class DropflagMill {
         if (program.countLoans() + loansOf(sort) > MOST_LOANS) {
             throw new IllegalStateException("there are 16 loans");
         }
-        isChecked = false;
         program.insertLine(program.lines, sort, a, b);
+        check.look();
         return program.lines - 1;
     }
 
@@ -121,8 +121,8 @@ public final class DropflagMill {
         if (program.countLoans() - loansOf(before) + loansOf(sort) > MOST_LOANS) {
             throw new IllegalStateException("there are 16 loans");
         }
-        isChecked = false;
         program.setLine(line, sort, a, b);
+        check.look();
         return before;
     }
 
@@ -130,10 +130,10 @@ public final class DropflagMill {
         if (program.lines == 0) {
             throw new IllegalStateException("there is no line");
         }
-        isChecked = false;
         int last = program.lines - 1;
         int before = program.sortAt(last);
         program.removeLine(last);
+        check.look();
         return before;
     }
 
@@ -148,9 +148,9 @@ public final class DropflagMill {
             case 0: return program.sortAt(line);
             case 1: return program.aAt(line);
             case 2: return program.bAt(line);
-            case 3: return checkNow().ways.firstAt(line);
-            case 4: return checkNow().ways.secondAt(line);
-            default: return checkNow().isDead(line) ? 1 : 0;
+            case 3: return check.ways.firstAt(line);
+            case 4: return check.ways.secondAt(line);
+            default: return check.isDead(line) ? 1 : 0;
         }
     }
 
@@ -160,56 +160,56 @@ public final class DropflagMill {
         if (!program.isLineOrEnd(line) || program.kindAt(place) == NONE) {
             throw new IndexOutOfBoundsException("no such line, or place");
         }
-        return checkNow().stateAt(line, place);
+        return check.stateAt(line, place);
     }
 
     public int holds(int line, int variable) throws IndexOutOfBoundsException {
         if (!program.isLineOrEnd(line) || !program.isBorrow(variable)) {
             throw new IndexOutOfBoundsException("no such line, or borrow");
         }
-        return checkNow().heldBy(line, variable);
+        return check.heldBy(line, variable);
     }
 
     public boolean isWanted(int line, int variable) throws IndexOutOfBoundsException {
         if (!program.isLineOrEnd(line) || !program.isBorrow(variable)) {
             throw new IndexOutOfBoundsException("no such line, or borrow");
         }
-        return (checkNow().wantedAt(line) & (1 << variable)) != 0;
+        return (check.wantedAt(line) & (1 << variable)) != 0;
     }
 
     public int inTheWay(int line, int place) throws IndexOutOfBoundsException {
         if (!program.isLineOrEnd(line) || program.kindAt(place) == NONE) {
             throw new IndexOutOfBoundsException("no such line, or place");
         }
-        Check now = checkNow();
-        return now.smallestLoan(line, place, now.wantedAt(line), false);
+        return check.smallestLoan(line, place, check.wantedAt(line), false);
     }
 
     public int ofLoan(int loan, int what) throws IndexOutOfBoundsException, IllegalArgumentException {
-        Check now = checkNow();
-        if (!now.isLoan(loan)) {
+        if (!check.loans.isLoan(loan)) {
             throw new IndexOutOfBoundsException("no such loan");
         }
         if (what < 0 || what > 3) {
             throw new IllegalArgumentException("no such what");
         }
         switch (what) {
-            case 0: return now.loanLine(loan);
-            case 1: return now.loanPlace(loan);
-            case 2: return now.isLent(loan) ? 1 : 0;
-            default: return now.lastUse(loan);
+            case 0: return check.loans.lineOf(loan);
+            case 1: return check.loans.placeOf(loan);
+            case 2: return check.loans.isLent(loan) ? 1 : 0;
+            default: return check.lastUse(loan);
         }
     }
 
     public int fault(int k, int what) throws IndexOutOfBoundsException, IllegalArgumentException {
-        Check now = checkNow();
-        if (!now.isFault(k)) {
+        if (!check.faults.isFault(k)) {
             throw new IndexOutOfBoundsException("no such fault");
         }
         if (what < 0 || what > 4) {
             throw new IllegalArgumentException("no such what");
         }
-        return now.faultFact(k, what);
+        if (what == 4) {
+            return check.lastUse(check.faults.fact(k, 3));
+        }
+        return check.faults.fact(k, what);
     }
 
     public int ofVariable(int variable, int what) throws IndexOutOfBoundsException, IllegalArgumentException {
@@ -221,16 +221,16 @@ public final class DropflagMill {
         }
         switch (what) {
             case 0: return program.kindAt(3 * variable);
-            case 1: return checkNow().flagsOf(variable);
-            case 2: return program.countUsers(variable);
-            default: return program.countGivers(variable);
+            case 1: return check.flagsOf(variable);
+            case 2: return check.deeds.countUsers(variable);
+            default: return check.deeds.countGivers(variable);
         }
     }
 
     // ---- runs
 
     public int run() throws IllegalStateException {
-        if (checkNow().faults > 0) {
+        if (check.faults.count > 0) {
             throw new IllegalStateException("there are faults");
         }
         runs++;
@@ -273,11 +273,11 @@ public final class DropflagMill {
         switch (what) {
             case 0: return program.variables;
             case 1: return program.lines;
-            case 2: return checkNow().faults;
-            case 3: return checkNow().loans;
-            case 4: return Integer.bitCount(checkNow().flags);
-            case 5: return checkNow().countDead();
-            default: return checkNow().mostWanted();
+            case 2: return check.faults.count;
+            case 3: return check.loans.count;
+            case 4: return Integer.bitCount(check.flags);
+            case 5: return check.countDead();
+            default: return check.mostWanted();
         }
     }
 
@@ -294,7 +294,7 @@ public final class DropflagMill {
         other.copyOf(program);
         other.removeLine(line);
         otherCheck.look();
-        return otherCheck.faults;
+        return otherCheck.faults.count;
     }
 
     public int couldDrop(int line, int place) throws IndexOutOfBoundsException {
@@ -304,7 +304,7 @@ public final class DropflagMill {
         other.copyOf(program);
         other.insertLine(line, DROP, place, 0);
         otherCheck.look();
-        return otherCheck.ways.isWhole() ? otherCheck.faultOfLine(line) : 0;
+        return otherCheck.ways.isWhole() ? otherCheck.faults.numberOfLine(line) : 0;
     }
 
     public int leakedBy(int line) throws IndexOutOfBoundsException {
@@ -313,7 +313,12 @@ public final class DropflagMill {
         }
         other.copyOf(program);
         other.setLine(line, PANIC, 0, 0);
-        return runsTrial() ? trial.countLeaked() : NONE;
+        otherCheck.look();
+        if (otherCheck.faults.count > 0) {
+            return NONE;
+        }
+        trial.go();
+        return trial.countLeaked();
     }
 
     public int outcomeWith(int line, int number) throws IndexOutOfBoundsException, IllegalArgumentException {
@@ -326,7 +331,12 @@ public final class DropflagMill {
         }
         other.copyOf(program);
         other.setLine(line, sort, program.aAt(line), number);
-        return runsTrial() ? trial.outcome : NONE;
+        otherCheck.look();
+        if (otherCheck.faults.count > 0) {
+            return NONE;
+        }
+        trial.go();
+        return trial.outcome;
     }
 
     public long digest() {
@@ -368,13 +378,12 @@ public final class DropflagMill {
 
     private long withLoansAndFaults(long start) {
         long d = start;
-        Check now = checkNow();
-        for (int loan = 0; loan < now.loans; loan++) {
+        for (int loan = 0; loan < check.loans.count; loan++) {
             for (int what = 0; what <= 3; what++) {
                 d = d * 31 + ofLoan(loan, what);
             }
         }
-        for (int k = 0; k < now.faults; k++) {
+        for (int k = 0; k < check.faults.count; k++) {
             for (int what = 0; what <= 4; what++) {
                 d = d * 31 + fault(k, what);
             }
@@ -394,25 +403,6 @@ public final class DropflagMill {
             }
         }
         return d;
-    }
-
-    /** The check of the program as it stands; it is made anew only when something was told since. */
-    private Check checkNow() {
-        if (!isChecked) {
-            check.look();
-            isChecked = true;
-        }
-        return check;
-    }
-
-    /** Runs the other program, if it has no FAULTS; returns whether it did. */
-    private boolean runsTrial() {
-        otherCheck.look();
-        if (otherCheck.faults > 0) {
-            return false;
-        }
-        trial.go();
-        return true;
     }
 
     private static boolean isSmall(int number) {
@@ -546,7 +536,7 @@ public final class DropflagMill {
 
         /** The KIND of a PLACE; NONE if there is no such PLACE. */
         int kindAt(int place) {
-            if (place < 0 || !isVariable(place / 3)) {
+            if (place < 0 || place / 3 >= variables) {
                 return NONE;
             }
             int kind = kinds[place / 3];
@@ -616,13 +606,54 @@ public final class DropflagMill {
             }
             return loans;
         }
+    }
 
-        int firstUsed(int line) {
-            switch (sortAt(line)) {
+    /** What each LINE does with its PLACES, LINE by LINE. */
+    private static final class Deeds {
+        final Program program;
+        final int[] used;
+        final int[] usedThen;
+        final int[] given;
+        final int[] usedLeaves;
+        final int[] usedThenLeaves;
+        final int[] givenLeaves;
+        final int[] lostLeaves;
+        final int[] borrowsUsed;
+        final int[] borrowsGiven;
+
+        Deeds(Program program) {
+            this.program = program;
+            used = new int[LINE_ROOM];
+            usedThen = new int[LINE_ROOM];
+            given = new int[LINE_ROOM];
+            usedLeaves = new int[LINE_ROOM];
+            usedThenLeaves = new int[LINE_ROOM];
+            givenLeaves = new int[LINE_ROOM];
+            lostLeaves = new int[LINE_ROOM];
+            borrowsUsed = new int[LINE_ROOM];
+            borrowsGiven = new int[LINE_ROOM];
+        }
+
+        void look() {
+            for (int line = 0; line < program.lines; line++) {
+                used[line] = usedFirst(line);
+                usedThen[line] = program.sortAt(line) == LINK ? program.bAt(line) : NONE;
+                given[line] = givenBy(line);
+                usedLeaves[line] = program.leavesOf(used[line]);
+                usedThenLeaves[line] = program.leavesOf(usedThen[line]);
+                givenLeaves[line] = program.leavesOf(given[line]);
+                lostLeaves[line] = program.leavesOf(lostBy(line));
+                borrowsUsed[line] = borrowSet(used[line]);
+                borrowsGiven[line] = borrowSet(given[line]);
+            }
+        }
+
+        private int usedFirst(int line) {
+            switch (program.sortAt(line)) {
                 case MOVE:
                 case COPY:
                 case BORROW:
-                case LEND: return bAt(line);
+                case LEND: return program.bAt(line);
                 case READ:
                 case WRITE:
                 case DROP:
@@ -630,76 +661,72 @@ public final class DropflagMill {
                 case LINK:
                 case HOLD:
                 case LET_GO:
-                case STEP: return aAt(line);
+                case STEP: return program.aAt(line);
                 default: return NONE;
             }
         }
 
-        int secondUsed(int line) {
-            return sortAt(line) == LINK ? bAt(line) : NONE;
-        }
-
-        int givenAt(int line) {
-            int sort = sortAt(line);
-            return sort >= MAKE && sort <= LEND ? aAt(line) : NONE;
-        }
-
-        int lostAt(int line) {
-            switch (sortAt(line)) {
-                case MOVE: return bAt(line);
-                case DROP: return aAt(line);
+        private int givenBy(int line) {
+            switch (program.sortAt(line)) {
+                case MAKE:
+                case MOVE:
+                case COPY:
+                case BORROW:
+                case LEND: return program.aAt(line);
                 default: return NONE;
             }
         }
 
-        /** The set of the BORROWS that a LINE USES (one at most: a LINK has none). */
-        int borrowsUsed(int line) {
-            return borrowSet(firstUsed(line));
-        }
-
-        int borrowsGiven(int line) {
-            return borrowSet(givenAt(line));
+        private int lostBy(int line) {
+            switch (program.sortAt(line)) {
+                case MOVE: return program.bAt(line);
+                case DROP: return program.aAt(line);
+                default: return NONE;
+            }
         }
 
         private int borrowSet(int place) {
-            return isBorrowKind(kindAt(place)) ? 1 << (place / 3) : 0;
+            return isBorrowKind(program.kindAt(place)) ? 1 << (place / 3) : 0;
         }
 
         /** The PLACE that a LINE TAKES first (turn 0), or then (turn 1); NONE without one. */
         int takenAt(int line, int turn) {
-            int kind = kindAt(aAt(line));
-            switch (sortAt(line)) {
+            int a = program.aAt(line);
+            int b = program.bAt(line);
+            boolean isFirst = turn == 0;
+            int kind = program.kindAt(a);
+            switch (program.sortAt(line)) {
                 case COPY:
                     if (kind != NUMBER) {
                         return NONE;
                     }
-                    return turn == 0 ? bAt(line) : aAt(line);
+                    return isFirst ? b : a;
                 case MOVE:
                     if (isBorrowKind(kind)) {
                         return NONE;
                     }
-                    return turn == 0 ? aAt(line) : bAt(line);
+                    return isFirst ? a : b;
                 case BORROW:
-                case LEND: return turn == 0 ? bAt(line) : NONE;
+                case LEND: return isFirst ? b : NONE;
                 case READ:
-                case WRITE: return turn == 0 && !isBorrowKind(kind) ? aAt(line) : NONE;
+                case WRITE: return isFirst && !isBorrowKind(kind) ? a : NONE;
                 case MAKE:
                 case DROP:
                 case IF:
-                case STEP: return turn == 0 ? aAt(line) : NONE;
+                case STEP: return isFirst ? a : NONE;
                 default: return NONE;
             }
         }
 
-        boolean takesToRead(int line, int turn) {
-            int sort = sortAt(line);
+        boolean isTakenToRead(int line, int turn) {
+            int sort = program.sortAt(line);
             return sort == BORROW || sort == IF || sort == READ || (sort == COPY && turn == 0);
         }
 
         int countUsers(int variable) {
             int users = 0;
-            for (int line = 0; line < lines; line++) {
-                if (isOf(variable, firstUsed(line)) || isOf(variable, secondUsed(line))) {
+            for (int line = 0; line < program.lines; line++) {
+                if (isOf(variable, used[line]) || isOf(variable, usedThen[line])) {
                     users++;
                 }
             }
@@ -708,15 +735,15 @@ public final class DropflagMill {
 
         int countGivers(int variable) {
             int givers = 0;
-            for (int line = 0; line < lines; line++) {
-                if (isOf(variable, givenAt(line))) {
+            for (int line = 0; line < program.lines; line++) {
+                if (isOf(variable, given[line])) {
                     givers++;
                 }
             }
             return givers;
         }
 
-        private boolean isOf(int variable, int place) {
+        private static boolean isOf(int variable, int place) {
             return place >= 0 && place / 3 == variable;
         }
     }
@@ -848,31 +875,133 @@ public final class DropflagMill {
         }
     }
 
+    /** The LOANS, numbered as their LINES come. */
+    private static final class Loans {
+        final Program program;
+        final int[] lines;
+        final int[] places;
+        final boolean[] isOfLend;
+        final int[] ofLine;
+        int count;
+
+        Loans(Program program) {
+            this.program = program;
+            lines = new int[MOST_LOANS];
+            places = new int[MOST_LOANS];
+            isOfLend = new boolean[MOST_LOANS];
+            ofLine = new int[LINE_ROOM];
+            count = 0;
+        }
+
+        void look() {
+            count = 0;
+            for (int line = 0; line < program.lines; line++) {
+                ofLine[line] = NONE;
+                int sort = program.sortAt(line);
+                if (loansOf(sort) == 1 && isIndexOf(lines, count)) {
+                    lines[count] = line;
+                    places[count] = program.bAt(line);
+                    isOfLend[count] = sort == LEND;
+                    ofLine[line] = count;
+                    count++;
+                }
+            }
+        }
+
+        boolean isLoan(int loan) {
+            return loan >= 0 && loan < count;
+        }
+
+        int lineOf(int loan) {
+            return isLoan(loan) ? lines[loan] : NONE;
+        }
+
+        int placeOf(int loan) {
+            return isLoan(loan) ? places[loan] : NONE;
+        }
+
+        boolean isLent(int loan) {
+            return isLoan(loan) && isOfLend[loan];
+        }
+    }
+
+    /** The FAULTS, as their LINES come. */
+    private static final class Faults {
+        final int[] numbers;
+        final int[] lines;
+        final int[] places;
+        final int[] loans;
+        int count;
+
+        Faults() {
+            numbers = new int[LINE_ROOM];
+            lines = new int[LINE_ROOM];
+            places = new int[LINE_ROOM];
+            loans = new int[LINE_ROOM];
+            count = 0;
+        }
+
+        void add(int number, int line, int place, int loan) {
+            if (isIndexOf(numbers, count)) {
+                numbers[count] = number;
+                lines[count] = line;
+                places[count] = place;
+                loans[count] = loan;
+                count++;
+            }
+        }
+
+        boolean isFault(int k) {
+            return k >= 0 && k < count;
+        }
+
+        int fact(int k, int what) {
+            if (!isFault(k)) {
+                return NONE;
+            }
+            switch (what) {
+                case 0: return numbers[k];
+                case 1: return lines[k];
+                case 2: return places[k];
+                default: return loans[k];
+            }
+        }
+
+        /** The FAULT that a LINE has; 0 without one. */
+        int numberOfLine(int line) {
+            for (int k = 0; k < count; k++) {
+                if (lines[k] == line) {
+                    return numbers[k];
+                }
+            }
+            return 0;
+        }
+    }
+
     /** What is known of a program ahead of any RUN. */
     private static final class Check {
         final Program program;
+        final Deeds deeds;
         final Ways ways;
+        final Loans loans;
+        final Faults faults;
         final boolean[] isReached;
+        /** Of a LINE: something came there that was not yet carried on to its NEXT LINES. */
         final boolean[] isWaiting;
         final int[] canHave;
         final int[] canLack;
-        /** LINE by LINE, for each VARIABLE, the set of LOANS. */
+        /** LINE by LINE, for each VARIABLE, the set of LOANS that it can HOLD. */
         final int[] held;
         final int[] heldBehind;
         final int[] wanted;
-        final int[] loanLines;
-        final int[] loanOfLine;
-        int loans;
-        final int[] faultNumbers;
-        final int[] faultLines;
-        final int[] faultPlaces;
-        final int[] faultLoans;
-        int faults;
         int flags;
 
         Check(Program program) {
             this.program = program;
+            deeds = new Deeds(program);
             ways = new Ways(program);
+            loans = new Loans(program);
+            faults = new Faults();
             isReached = new boolean[LINE_ROOM];
             isWaiting = new boolean[LINE_ROOM];
             canHave = new int[LINE_ROOM];
@@ -880,29 +1009,22 @@ public final class DropflagMill {
             held = new int[LINE_ROOM * MOST_VARIABLES];
             heldBehind = new int[MOST_VARIABLES];
             wanted = new int[LINE_ROOM];
-            loanLines = new int[MOST_LOANS];
-            loanOfLine = new int[LINE_ROOM];
-            faultNumbers = new int[LINE_ROOM];
-            faultLines = new int[LINE_ROOM];
-            faultPlaces = new int[LINE_ROOM];
-            faultLoans = new int[LINE_ROOM];
-            loans = 0;
-            faults = 0;
             flags = 0;
         }
 
         void look() {
             clear();
-            numberLoans();
+            deeds.look();
+            loans.look();
             ways.look();
             if (!ways.isWhole()) {
-                addFault(FAULT_NOT_WHOLE, ways.wrong, NONE, NONE);
+                faults.add(FAULT_NOT_WHOLE, ways.wrong, NONE, NONE);
                 return;
             }
             followWays();
             findWanted();
             for (int line = 0; line < program.lines; line++) {
-                if (!isDead(line)) {
+                if (isReached[line]) {
                     findFault(line);
                 }
             }
@@ -916,22 +1038,10 @@ public final class DropflagMill {
                 canHave[line] = 0;
                 canLack[line] = 0;
                 wanted[line] = 0;
-                loanOfLine[line] = NONE;
             }
             Arrays.fill(held, 0);
-            loans = 0;
-            faults = 0;
+            faults.count = 0;
             flags = 0;
-        }
-
-        private void numberLoans() {
-            for (int line = 0; line < program.lines; line++) {
-                if (loansOf(program.sortAt(line)) == 1 && isIndexOf(loanLines, loans)) {
-                    loanLines[loans] = line;
-                    loanOfLine[line] = loans;
-                    loans++;
-                }
-            }
         }
 
         private void followWays() {
@@ -953,14 +1063,14 @@ public final class DropflagMill {
 
         /** Carries what stands behind a LINE to its NEXT LINES. */
         private void passOn(int line) {
-            int lost = program.leavesOf(program.lostAt(line));
-            int given = program.leavesOf(program.givenAt(line));
+            int given = deeds.givenLeaves[line];
+            int lost = deeds.lostLeaves[line];
             int have = (canHave[line] & ~lost) | given;
             int lack = (canLack[line] | lost) & ~given;
             for (int variable = 0; variable < MOST_VARIABLES; variable++) {
                 heldBehind[variable] = held[line * MOST_VARIABLES + variable];
             }
-            if (program.borrowsGiven(line) != 0) {
+            if (deeds.borrowsGiven[line] != 0) {
                 setHeldByGiven(line);
             }
             comeTo(ways.firstAt(line), have, lack);
@@ -968,15 +1078,15 @@ public final class DropflagMill {
         }
 
         private void setHeldByGiven(int line) {
-            int variable = program.givenAt(line) / 3;
+            int variable = deeds.given[line] / 3;
             if (!isIndexOf(heldBehind, variable)) {
                 return;
             }
-            int loan = loanOfLine[line];
+            int loan = loans.ofLine[line];
             if (loan != NONE) {
                 heldBehind[variable] = 1 << loan;
             } else {
-                heldBehind[variable] = heldBy(line, program.bAt(line) / 3);
+                heldBehind[variable] = heldBy(line, deeds.used[line] / 3);
             }
         }
 
@@ -1002,10 +1112,10 @@ public final class DropflagMill {
             for (int round = 0; round < MOST_ROUNDS && isMore; round++) {
                 isMore = false;
                 for (int line = program.lines - 1; line >= 0; line--) {
-                    int now = wantedBehind(line) & ~program.borrowsGiven(line);
-                    now |= program.borrowsUsed(line);
-                    isMore |= now != wanted[line];
-                    wanted[line] = now;
+                    int set = wantedBehind(line) & ~deeds.borrowsGiven[line];
+                    set |= deeds.borrowsUsed[line];
+                    isMore |= set != wanted[line];
+                    wanted[line] = set;
                 }
             }
         }
@@ -1020,23 +1130,23 @@ public final class DropflagMill {
         }
 
         private void findFault(int line) {
-            int lacking = program.leavesOf(program.firstUsed(line)) & canLack[line];
+            int lacking = deeds.usedLeaves[line] & canLack[line];
             if (lacking == 0) {
-                lacking = program.leavesOf(program.secondUsed(line)) & canLack[line];
+                lacking = deeds.usedThenLeaves[line] & canLack[line];
             }
             if (lacking != 0) {
                 int leaf = Integer.numberOfTrailingZeros(lacking);
-                boolean canBeHad = (canHave[line] & (1 << leaf)) != 0;
-                addFault(canBeHad ? FAULT_MAY_NOT_HAVE : FAULT_HAS_NOT, line, leaf, NONE);
+                boolean canHaveIt = (canHave[line] & (1 << leaf)) != 0;
+                faults.add(canHaveIt ? FAULT_MAY_NOT_HAVE : FAULT_HAS_NOT, line, leaf, NONE);
                 return;
             }
-            int borrows = wantedBehind(line) & ~program.borrowsGiven(line);
+            int borrows = wantedBehind(line) & ~deeds.borrowsGiven[line];
             for (int turn = 0; turn <= 1; turn++) {
-                int place = program.takenAt(line, turn);
-                boolean isRead = program.takesToRead(line, turn);
+                int place = deeds.takenAt(line, turn);
+                boolean isRead = deeds.isTakenToRead(line, turn);
                 int loan = smallestLoan(line, place, borrows, isRead);
                 if (loan != NONE) {
-                    addFault(isRead ? FAULT_READ : FAULT_WRITE, line, place, loan);
+                    faults.add(isRead ? FAULT_READ : FAULT_WRITE, line, place, loan);
                     return;
                 }
             }
@@ -1048,9 +1158,9 @@ public final class DropflagMill {
                 return NONE;
             }
             int set = heldByAny(line, borrows);
-            for (int loan = 0; loan < loans; loan++) {
-                boolean isOne = (set & (1 << loan)) != 0 && meets(loanPlace(loan), place);
-                if (isOne && (!isOnlyLent || isLent(loan))) {
+            for (int loan = 0; loan < loans.count; loan++) {
+                boolean isOne = (set & (1 << loan)) != 0 && meets(loans.placeOf(loan), place);
+                if (isOne && (!isOnlyLent || loans.isLent(loan))) {
                     return loan;
                 }
             }
@@ -1068,20 +1178,22 @@ public final class DropflagMill {
         }
 
         int heldBy(int line, int variable) {
-            if (!program.isLineOrEnd(line) || !program.isVariable(variable)) {
-                return 0;
-            }
-            return held[line * MOST_VARIABLES + variable];
+            boolean isThere = line >= 0 && line < LINE_ROOM && variable >= 0 && variable < MOST_VARIABLES;
+            return isThere ? held[line * MOST_VARIABLES + variable] : 0;
         }
 
-        private void addFault(int number, int line, int place, int loan) {
-            if (isIndexOf(faultNumbers, faults)) {
-                faultNumbers[faults] = number;
-                faultLines[faults] = line;
-                faultPlaces[faults] = place;
-                faultLoans[faults] = loan;
-                faults++;
+        /** The greatest LINE that USES a BORROW that can HOLD the LOAN ahead of it. */
+        int lastUse(int loan) {
+            if (!loans.isLoan(loan)) {
+                return NONE;
             }
+            for (int line = program.lines - 1; line >= 0; line--) {
+                int set = heldByAny(line, deeds.borrowsUsed[line]);
+                if ((set & (1 << loan)) != 0) {
+                    return line;
+                }
+            }
+            return NONE;
         }
 
         private void findFlags() {
@@ -1090,7 +1202,7 @@ public final class DropflagMill {
                     case MAKE:
                     case MOVE:
                     case COPY:
-                        flags |= unsureAt(line) & program.leavesOf(program.aAt(line));
+                        flags |= unsureAt(line) & deeds.givenLeaves[line];
                         break;
                     case HOLD:
                     case PANIC:
@@ -1110,7 +1222,7 @@ public final class DropflagMill {
         }
 
         boolean isDead(int line) {
-            return ways.isWhole() && program.isLineOrEnd(line) && !isReached[line];
+            return ways.isWhole() && program.isLine(line) && !isReached[line];
         }
 
         int stateAt(int line, int place) {
@@ -1122,61 +1234,6 @@ public final class DropflagMill {
                 return 2;
             }
             return (canLack[line] & leaves) == 0 ? 1 : 3;
-        }
-
-        boolean isLoan(int loan) {
-            return loan >= 0 && loan < loans;
-        }
-
-        int loanLine(int loan) {
-            return isLoan(loan) ? loanLines[loan] : NONE;
-        }
-
-        int loanPlace(int loan) {
-            return program.bAt(loanLine(loan));
-        }
-
-        boolean isLent(int loan) {
-            return program.sortAt(loanLine(loan)) == LEND;
-        }
-
-        int lastUse(int loan) {
-            if (!isLoan(loan)) {
-                return NONE;
-            }
-            for (int line = program.lines - 1; line >= 0; line--) {
-                int set = heldByAny(line, program.borrowsUsed(line));
-                if ((set & (1 << loan)) != 0) {
-                    return line;
-                }
-            }
-            return NONE;
-        }
-
-        boolean isFault(int k) {
-            return k >= 0 && k < faults;
-        }
-
-        int faultFact(int k, int what) {
-            if (!isFault(k)) {
-                return NONE;
-            }
-            switch (what) {
-                case 0: return faultNumbers[k];
-                case 1: return faultLines[k];
-                case 2: return faultPlaces[k];
-                case 3: return faultLoans[k];
-                default: return lastUse(faultLoans[k]);
-            }
-        }
-
-        int faultOfLine(int line) {
-            for (int k = 0; k < faults; k++) {
-                if (faultLines[k] == line) {
-                    return faultNumbers[k];
-                }
-            }
-            return 0;
         }
 
         /** The set of the LEAVES of a VARIABLE that need a FLAG: 0 for PART 0 or itself, 1 for PART 1. */
@@ -1360,6 +1417,10 @@ public final class DropflagMill {
         /** Of a BOX or NUMBER its number, of a COUNTED its NODE, of a BORROW the PLACE of its LOAN. */
         final int[] value;
         final int[] roundsLeft;
+        /** What was there ahead: a LINE sets it aside, and it is dropped behind all else that the LINE does. */
+        final int[] olds;
+        int oldKind;
+        int oldCount;
         int here;
         int outcome;
         int steps;
@@ -1376,6 +1437,9 @@ public final class DropflagMill {
             has = new boolean[PLACE_ROOM];
             value = new int[PLACE_ROOM];
             roundsLeft = new int[LINE_ROOM];
+            olds = new int[2];
+            oldKind = NONE;
+            oldCount = 0;
             here = 0;
             outcome = 0;
             steps = 0;
@@ -1394,6 +1458,7 @@ public final class DropflagMill {
             while (steps < MOST_STEPS && program.isLine(here) && panicLine == NONE) {
                 steps++;
                 doLine(program.sortAt(here), program.aAt(here), program.bAt(here));
+                dropOlds();
                 if (panicLine == NONE) {
                     here = lineBehind(here);
                 }
@@ -1419,6 +1484,7 @@ public final class DropflagMill {
                 value[place] = 0;
             }
             Arrays.fill(roundsLeft, 0);
+            oldCount = 0;
             here = 0;
             steps = 0;
             boxesMade = 0;
@@ -1524,54 +1590,48 @@ public final class DropflagMill {
             give(a, valueAt(b), 0);
         }
 
-        /** Lets a PLACE have something new (second is for PART 1 of a PAIR), then drops what it had. */
+        /** Lets a PLACE have something new (second is for PART 1 of a PAIR). */
         private void give(int place, int first, int second) {
-            int kind = program.kindAt(place);
             int leaf = firstLeaf(place);
-            boolean isPair = kind == PAIR;
-            boolean had = hasAt(leaf);
-            int old = valueAt(leaf);
-            boolean hadSecond = isPair && hasAt(leaf + 1);
-            int oldSecond = valueAt(leaf + 1);
+            drop(place);
             setValue(leaf, first);
-            if (isPair) {
+            if (program.kindAt(place) == PAIR) {
                 setValue(leaf + 1, second);
-            }
-            if (had) {
-                release(kind, old);
-            }
-            if (hadSecond) {
-                release(kind, oldSecond);
             }
         }
 
         private void drop(int place) {
             int kind = program.kindAt(place);
-            int leaf = firstLeaf(place);
-            boolean had = hasAt(leaf);
-            boolean hadSecond = kind == PAIR && hasAt(leaf + 1);
-            setEmpty(leaf);
             if (kind == PAIR) {
-                setEmpty(leaf + 1);
-            }
-            if (had) {
-                release(kind, valueAt(leaf));
-            }
-            if (hadSecond) {
-                release(kind, valueAt(leaf + 1));
+                setAside(kind, place + 1);
+                setAside(kind, place + 2);
+            } else {
+                setAside(kind, place);
             }
         }
 
-        /** Drops what a LEAF of this KIND had; behind an ABORT nothing more is done. */
-        private void release(int kind, int old) {
-            if (isAborted) {
+        private void setAside(int kind, int leaf) {
+            if (leaf < 0 || leaf >= PLACE_ROOM || !has[leaf]) {
                 return;
             }
-            if (kind == COUNTED) {
-                letDown(old);
-            } else if (isOwned(kind)) {
-                dropBox(old);
+            has[leaf] = false;
+            if (oldCount < olds.length) {
+                oldKind = kind;
+                olds[oldCount] = value[leaf];
+                oldCount++;
             }
+        }
+
+        /** Drops what was set aside; behind an ABORT nothing more is done. */
+        private void dropOlds() {
+            for (int k = 0; k < oldCount && k < olds.length && !isAborted; k++) {
+                if (oldKind == COUNTED) {
+                    letDown(olds[k]);
+                } else if (isOwned(oldKind)) {
+                    dropBox(olds[k]);
+                }
+            }
+            oldCount = 0;
         }
 
         private void dropBox(int number) {
@@ -1592,10 +1652,12 @@ public final class DropflagMill {
 
         private void link(int from, int to) {
             nodes.countUp(to);
-            int old = nodes.linkOf(from);
+            int before = nodes.linkOf(from);
             nodes.setLink(from, to);
-            if (old != NONE) {
-                letDown(old);
+            if (before != NONE && oldCount < olds.length) {
+                oldKind = COUNTED;
+                olds[oldCount] = before;
+                oldCount++;
             }
         }
 
@@ -1653,6 +1715,7 @@ public final class DropflagMill {
             for (int variable = program.variables - 1; variable >= 0 && !isAborted; variable--) {
                 if (isOwned(program.kindAt(3 * variable))) {
                     drop(3 * variable);
+                    dropOlds();
                 }
             }
         }
@@ -1661,23 +1724,19 @@ public final class DropflagMill {
             return program.kindAt(place) == PAIR ? place + 1 : place;
         }
 
-        private boolean hasAt(int leaf) {
-            return isIndexOf(value, leaf) && has[leaf];
-        }
-
         private int valueAt(int leaf) {
             return isIndexOf(value, leaf) ? value[leaf] : 0;
         }
 
         private void setValue(int leaf, int then) {
-            if (isIndexOf(value, leaf)) {
+            if (leaf >= 0 && leaf < PLACE_ROOM) {
                 has[leaf] = true;
                 value[leaf] = then;
             }
         }
 
         private void setEmpty(int leaf) {
-            if (isIndexOf(value, leaf)) {
+            if (leaf >= 0 && leaf < PLACE_ROOM) {
                 has[leaf] = false;
             }
         }
