@@ -437,7 +437,7 @@ public final class DropflagMill {
         return index >= 0 && index < row.length;
     }
 
-    /** The VARIABLES and LINES as they were told, and what each SORT of a LINE does with its PLACES. */
+    /** The VARIABLES and LINES as they were told. */
     private static final class Program {
         final int[] kinds;
         final int[] sorts;
