@@ -17,7 +17,7 @@ public final class DropflagMill {
     private static final int PLACE_ROOM = 3 * MOST_VARIABLES;
     /** One LINE more than can be told, as couldDrop thinks of one more, and the END OF ALL. */
     private static final int LINE_ROOM = MOST_LINES + 2;
-    /** Far above the number of rounds in which all that can come to a LINE has come there. */
+    /** Far above the rounds that any program needs till nothing new comes to any of its LINES. */
     private static final int MOST_ROUNDS = 100000;
 
     private static final int NUMBER = 0;
@@ -941,7 +941,7 @@ public final class DropflagMill {
             count = 0;
         }
 
-        void add(int number, int line, int place, int loan) {
+        void addFault(int number, int line, int place, int loan) {
             if (isIndexOf(numbers, count)) {
                 numbers[count] = number;
                 lines[count] = line;
@@ -1018,7 +1018,7 @@ public final class DropflagMill {
             loans.look();
             ways.look();
             if (!ways.isWhole()) {
-                faults.add(FAULT_NOT_WHOLE, ways.wrong, NONE, NONE);
+                faults.addFault(FAULT_NOT_WHOLE, ways.wrong, NONE, NONE);
                 return;
             }
             followWays();
@@ -1067,7 +1067,7 @@ public final class DropflagMill {
             int lost = deeds.lostLeaves[line];
             int have = (canHave[line] & ~lost) | given;
             int lack = (canLack[line] | lost) & ~given;
-            for (int variable = 0; variable < MOST_VARIABLES; variable++) {
+            for (int variable = 0; variable < program.variables; variable++) {
                 heldBehind[variable] = held[line * MOST_VARIABLES + variable];
             }
             if (deeds.borrowsGiven[line] != 0) {
@@ -1098,7 +1098,7 @@ public final class DropflagMill {
             isNew |= (have & ~canHave[line]) != 0 || (lack & ~canLack[line]) != 0;
             canHave[line] |= have;
             canLack[line] |= lack;
-            for (int variable = 0; variable < MOST_VARIABLES; variable++) {
+            for (int variable = 0; variable < program.variables; variable++) {
                 int at = line * MOST_VARIABLES + variable;
                 isNew |= (heldBehind[variable] & ~held[at]) != 0;
                 held[at] |= heldBehind[variable];
@@ -1137,7 +1137,7 @@ public final class DropflagMill {
             if (lacking != 0) {
                 int leaf = Integer.numberOfTrailingZeros(lacking);
                 boolean canHaveIt = (canHave[line] & (1 << leaf)) != 0;
-                faults.add(canHaveIt ? FAULT_MAY_NOT_HAVE : FAULT_HAS_NOT, line, leaf, NONE);
+                faults.addFault(canHaveIt ? FAULT_MAY_NOT_HAVE : FAULT_HAS_NOT, line, leaf, NONE);
                 return;
             }
             int borrows = wantedBehind(line) & ~deeds.borrowsGiven[line];
@@ -1146,7 +1146,7 @@ public final class DropflagMill {
                 boolean isRead = deeds.isTakenToRead(line, turn);
                 int loan = smallestLoan(line, place, borrows, isRead);
                 if (loan != NONE) {
-                    faults.add(isRead ? FAULT_READ : FAULT_WRITE, line, place, loan);
+                    faults.addFault(isRead ? FAULT_READ : FAULT_WRITE, line, place, loan);
                     return;
                 }
             }

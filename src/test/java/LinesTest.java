@@ -11,6 +11,7 @@ public final class LinesTest {
         addFull();
         putAndCut();
         nextLines();
+        noVariables();
         Due.end();
     }
 
@@ -162,5 +163,24 @@ public final class LinesTest {
         }
         Due.is("not whole: dead lines", x.many(5), 0);
         Due.is("not whole: the loop", x.fault(0, 1), 8);
+    }
+
+    /** LINES need no VARIABLES; ways are found without them, too. */
+    private static void noVariables() {
+        DropflagMill x = Due.mill(new int[] {}, new int[][] {{10, 3, 0}, {11, 0, 0}, {15, 0, 0}, {10, 1, 0}, {11, 0, 0}});
+        int[] dead = {0, 0, 0, 1, 1};
+        for (int line = 0; line < dead.length; line++) {
+            Due.is("ofLine(" + line + ", 5)", x.ofLine(line, 5), dead[line]);
+        }
+        Due.is("many(5)", x.many(5), 2);
+        Due.is("run()", x.run(), 1);
+        Due.is("ofRun(1)", x.ofRun(1), 5);
+        Due.is("leakedBy(0)", x.leakedBy(0), -1);
+        Due.is("faultsWithout(0)", x.faultsWithout(0), 1);
+        Due.fails(x, INDEX, "state(0, 0)", () -> x.state(0, 0));
+        Due.fails(x, ARGUMENT, "add(5, 0, 0)", () -> x.add(5, 0, 0));
+        Due.is("a variable behind lines", x.variable(1), 0);
+        Due.is("state(0, 0)", x.state(0, 0), 2);
+        Due.is("dead: state(3, 0)", x.state(3, 0), 0);
     }
 }
