@@ -9,6 +9,8 @@ public final class ModelTest {
     private static long seed = 20261119;
     private static int wrong = 0;
     private static int current = 0;
+    private static Model.Go latest = null;
+    private static int runs = 0;
     private static final int[] outcomes = new int[4];
     private static final int[] faultsSeen = new int[6];
 
@@ -72,8 +74,35 @@ public final class ModelTest {
         if (random(12) == 0 && !lines.isEmpty()) {
             lines.set(random(lines.size()), line(kinds));
         }
-        if (loans(lines) <= 16) {
-            compare(told(kinds, lines), new Model(kinds, lines));
+        if (loans(lines) > 16) {
+            return;
+        }
+        latest = null;
+        runs = 0;
+        DropflagMill mill = told(kinds, lines);
+        compare(mill, new Model(kinds, lines));
+        for (int change = random(4); change > 0; change--) {
+            change(mill, kinds, lines);
+            compare(mill, new Model(kinds, lines));
+        }
+    }
+
+    /** One change of the program that the mill has, so that nothing old is left behind in it. */
+    private static void change(DropflagMill mill, List<Integer> kinds, List<int[]> lines) {
+        int what = random(5);
+        int[] line = line(kinds);
+        if (what == 0 && kinds.size() < 8) {
+            kinds.add(random(6));
+            mill.variable(kinds.get(kinds.size() - 1));
+        } else if (what == 1 && !lines.isEmpty()) {
+            due("cut()", mill.cut(), lines.remove(lines.size() - 1)[0]);
+        } else if (what == 2 && lines.size() < 32 && loans(lines) < 16) {
+            lines.add(line);
+            due("add()", mill.add(line[0], line[1], line[2]), lines.size() - 1);
+        } else if (!lines.isEmpty() && loans(lines) < 16) {
+            int at = random(lines.size());
+            int before = lines.set(at, line)[0];
+            due("put()", mill.put(at, line[0], line[1], line[2]), before);
         }
     }
 
@@ -195,8 +224,7 @@ public final class ModelTest {
                 due("fault(" + k + ", " + what + ")", x.fault(k, what), m.faults().get(k)[what]);
             }
         }
-        long digest = digest(m, null, 0);
-        due("digest()", x.digest(), digest);
+        due("digest()", x.digest(), digest(m));
         compareRun(x, m);
         if (wrong > before) {
             System.out.println("  kinds " + m.kinds);
@@ -254,12 +282,14 @@ public final class ModelTest {
             return;
         }
         Model.Go go = new Model.Go(m);
+        latest = go;
+        runs++;
         outcomes[go.outcome]++;
         due("run()", x.run(), go.outcome);
         for (int what = 0; what <= 8; what++) {
             due("ofRun(" + what + ")", x.ofRun(what), go.fact(what));
         }
-        due("ofRun(9)", x.ofRun(9), 1);
+        due("ofRun(9)", x.ofRun(9), runs);
         long sum = 0;
         long reads = 0;
         for (int k = 0; k < Math.min(60, go.told.size()); k++) {
@@ -281,10 +311,11 @@ public final class ModelTest {
         due("told() behind the last one throws", threw ? 1 : 0, 1);
         double mean = reads == 0 ? 0 : (double) sum / reads;
         due("meanRead() as bits", Double.doubleToLongBits(x.meanRead()), Double.doubleToLongBits(mean));
-        due("digest() behind a run", x.digest(), digest(m, go, 1));
+        due("digest() behind a run", x.digest(), digest(m));
     }
 
-    private static long digest(Model m, Model.Go go, int runs) {
+    private static long digest(Model m) {
+        Model.Go go = latest;
         List<Long> all = new ArrayList<>();
         for (int what = 0; what <= 6; what++) all.add((long) m.many(what));
         for (int v = 0; v < m.kinds.size(); v++) {
