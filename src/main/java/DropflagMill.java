@@ -1094,17 +1094,16 @@ public final class DropflagMill {
             if (!program.isLineOrEnd(line)) {
                 return;
             }
-            boolean isNew = !isReached[line];
-            isNew |= (have & ~canHave[line]) != 0 || (lack & ~canLack[line]) != 0;
+            boolean isNew = !isReached[line] || (have & ~canHave[line]) != 0 || (lack & ~canLack[line]) != 0;
             canHave[line] |= have;
             canLack[line] |= lack;
             for (int variable = 0; variable < program.variables; variable++) {
                 int at = line * MOST_VARIABLES + variable;
-                isNew |= (heldBehind[variable] & ~held[at]) != 0;
+                isNew = isNew || (heldBehind[variable] & ~held[at]) != 0;
                 held[at] |= heldBehind[variable];
             }
             isReached[line] = true;
-            isWaiting[line] |= isNew;
+            isWaiting[line] = isWaiting[line] || isNew;
         }
 
         private void findWanted() {
@@ -1114,7 +1113,7 @@ public final class DropflagMill {
                 for (int line = program.lines - 1; line >= 0; line--) {
                     int set = wantedBehind(line) & ~deeds.borrowsGiven[line];
                     set |= deeds.borrowsUsed[line];
-                    isMore |= set != wanted[line];
+                    isMore = isMore || set != wanted[line];
                     wanted[line] = set;
                 }
             }
