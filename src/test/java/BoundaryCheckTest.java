@@ -4,6 +4,7 @@
  */
 public final class BoundaryCheckTest implements Words {
     public static void main(String[] args) {
+        t1FirstAndLastVariable();
         t1Meeting();
         t3NoneHasAheadOfTheFirstLine();
         t3BothMayBe();
@@ -11,6 +12,7 @@ public final class BoundaryCheckTest implements Words {
         t3MovesToTheSamePlace();
         t4LoansAreNumberedByLines();
         t4ThatLoanAlone();
+        t4ThoseFromAllWays();
         t4UsedFirst();
         t4WantedWithIt();
         t5DeadLinesHaveNoFaults();
@@ -88,6 +90,28 @@ public final class BoundaryCheckTest implements Words {
         }
     }
 
+    /** Term 1: "VARIABLES: at most 8, numbered from 0": the first and the last one as what is lent and as a BORROW. */
+    private static void t1FirstAndLastVariable() {
+        for (int borrow = 0; borrow <= 7; borrow += 7) {
+            int of = 7 - borrow;
+            int[] kinds = kinds(PAIR, BOX, BOX, BOX, BOX, BOX, BOX, PAIR);
+            kinds[borrow] = ALONE;
+            int place = 3 * of + 2;
+            DropflagMill x = mill(kinds, line(MAKE, 3 * of, 1), line(LEND, 3 * borrow, place), line(READ, 3 * of),
+                line(READ, 3 * borrow));
+            Due.is("holds(2, " + borrow + ")", x.holds(2, borrow), 1);
+            Due.is("isWanted(2, " + borrow + ")", x.isWanted(2, borrow), true);
+            Due.is("inTheWay(2, " + place + ")", x.inTheWay(2, place), 0);
+            Due.is("the other PART: inTheWay(2, " + (place - 1) + ")", x.inTheWay(2, place - 1), NONE);
+            Due.is("ofLoan(0, 3)", x.ofLoan(0, 3), 3);
+            faultsAre("a READ of what is lent", x, new int[] {4, 2, 3 * of, 0, 3});
+            DropflagMill y = mill(kinds, line(LOOP, 1), line(READ, 3 * of + 2), line(MAKE, 3 * of, 1), line(END));
+            faultsAre("a READ ahead of a MAKE in a LOOP", y, new int[] {2, 1, place, NONE, NONE});
+            Due.is("FLAGS of both PARTS: ofVariable(" + of + ", 1)", y.ofVariable(of, 1), 3);
+            Due.is("many(4)", y.many(4), 2);
+        }
+    }
+
     /** Term 1: "Two PLACES MEET, if they are the same, or one is a PART of the other one": not next to one another. */
     private static void t1Meeting() {
         // 0 PAIR (1, 2), 3 PAIR (4, 5), 6 BOX, 9 NUMBER, 12 SHARED
@@ -142,6 +166,14 @@ public final class BoundaryCheckTest implements Words {
         faultsAre("a MAKE in a LOOP", y);
         DropflagMill z = mill(kinds(BOX), line(LOOP, 4), line(END), line(MAKE, 0, 1));
         statesAre(z, 0, 2, 2, 2, 1);
+        // what comes with the way back alone goes on past the LINES behind the LOOP
+        int[] kinds = kinds(BOX, NUMBER);
+        DropflagMill made = mill(kinds, line(MAKE, 3, 1), line(LOOP, 2), line(READ, 3), line(READ, 3), line(READ, 3), line(MAKE, 0, 1),
+            line(END));
+        statesAre(made, 0, 2, 2, 3, 3, 3, 3, 1, 1);
+        DropflagMill dropped = mill(kinds, line(MAKE, 0, 1), line(MAKE, 3, 1), line(LOOP, 2), line(READ, 3), line(READ, 3),
+            line(READ, 3), line(DROP, 0), line(END));
+        statesAre(dropped, 0, 2, 1, 1, 3, 3, 3, 3, 2, 2);
     }
 
     /** Term 3: "MOVE lets b .. NOT have any more; then .. let a .. HAVE something": also if both are the same. */
@@ -191,6 +223,37 @@ public final class BoundaryCheckTest implements Words {
         }
         DropflagMill y = mill(kinds(SHARED, SHARED, NUMBER), line(MAKE, 6, 1), line(BORROW, 3, 6), line(COPY, 3, 0));
         Due.is("a COPY of one that HOLDS none: holds(3, 1)", y.holds(3, 1), 0);
+    }
+
+    /** Term 4: "otherwise those from all ways": as many rounds of a LOOP as it takes, and those that say nothing new. */
+    private static void t4ThoseFromAllWays() {
+        // 7 SHARED, each with a LOAN of its own; in the LOOP each gets those of the next one, and the last a new one
+        DropflagMill x = mill(kinds(SHARED, SHARED, SHARED, SHARED, SHARED, SHARED, SHARED, NUMBER), line(MAKE, 21, 1));
+        for (int v = 0; v < 7; v++) {
+            x.add(BORROW, 3 * v, 21);
+        }
+        x.add(LOOP, 1, 0);
+        x.add(READ, 21, 0);
+        for (int v = 0; v < 6; v++) {
+            x.add(COPY, 3 * v, 3 * v + 3);
+        }
+        x.add(BORROW, 18, 21);
+        x.add(END, 0, 0);
+        for (int v = 0; v < 7; v++) {
+            Due.is("ahead of the LOOP: holds(8, " + v + ")", x.holds(8, v), 1 << v);
+            int all = 0xff & ~((1 << v) - 1);
+            Due.is("in the LOOP: holds(9, " + v + ")", x.holds(9, v), all);
+            Due.is("in the LOOP: holds(10, " + v + ")", x.holds(10, v), all);
+            int behind = v == 6 ? 1 << 7 : 0xff & ~((1 << (v + 1)) - 1);
+            Due.is("behind the LOOP: holds(18, " + v + ")", x.holds(18, v), behind);
+        }
+        // of two branches each has its own, and the END both
+        DropflagMill y = mill(kinds(SHARED, NUMBER), line(MAKE, 3, 1), line(IF, 3), line(BORROW, 0, 3), line(ELSE), line(READ, 3),
+            line(END), line(READ, 3));
+        int[] due = {0, 0, 0, 1, 0, 1, 1, 1};
+        for (int at = 0; at < due.length; at++) {
+            Due.is("two branches: holds(" + at + ", 0)", y.holds(at, 0), due[at]);
+        }
     }
 
     /** Term 4: "ahead of one that gives it something (a LINE that does both USES it first)". */

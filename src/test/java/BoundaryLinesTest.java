@@ -28,6 +28,7 @@ public final class BoundaryLinesTest implements Words {
         p1NothingThereYet();
         p2KindIsNot0To5();
         p2ThereAre8();
+        p2BehindLines();
         p3SortIsNot0To16();
         p3ThereAre32();
         p3SeventeenthLoan();
@@ -439,6 +440,21 @@ public final class BoundaryLinesTest implements Words {
         Due.leavesAll(x, ARGUMENT, "behind the last place: add(5, 24, 0)", () -> x.add(READ, 24, 0));
     }
 
+    /** Promise 2: "Tells a VARIABLE", also behind LINES: what is asked of it is known at once. */
+    private static void p2BehindLines() {
+        DropflagMill x = Due.mill(new int[] {NUMBER}, new int[][] {{MAKE, 0, 1}, {PANIC, 0, 0}, {READ, 0, 0}});
+        Due.is("variable(1)", x.variable(BOX), 1);
+        Due.is("variable(3)", x.variable(SHARED), 2);
+        int[] due = {2, 2, 0, 0};
+        for (int line = 0; line <= 3; line++) {
+            Due.is("state(" + line + ", 3)", x.state(line, 3), due[line]);
+            Due.is("state(" + line + ", 6)", x.state(line, 6), due[line]);
+            Due.is("holds(" + line + ", 2)", x.holds(line, 2), 0);
+        }
+        Due.is("many(0)", x.many(0), 3);
+        Due.is("couldDrop(1, 3)", x.couldDrop(1, 3), 1);
+    }
+
     /** Promise 3: "Throws IllegalArgumentException if sort is not 0 to 16" (a and b: the tests of term 2). */
     private static void p3SortIsNot0To16() {
         for (int sort : new int[] {MIN, -2, -1, 17, 18, MAX}) {
@@ -545,6 +561,15 @@ public final class BoundaryLinesTest implements Words {
         Due.fails(x, STATE, "the 17th: put(16, 3, 9, 0)", () -> x.put(16, BORROW, 9, 0));
         Due.fails(x, STATE, "the 17th: put(16, 4, 12, 0)", () -> x.put(16, LEND, 12, 0));
         Due.is("left as it was: ofLine(16, 2)", x.ofLine(16, 2), 2);
+        for (int line = 17; line < 32; line++) {
+            x.add(READ, 0, 0);
+        }
+        Due.fails(x, STATE, "the 17th of 32: put(31, 3, 9, 0)", () -> x.put(31, BORROW, 9, 0));
+        for (int line = 31; line >= 17; line--) {
+            Due.fails(x, STATE, "the 17th: put(16, 3, 9, 0)", () -> x.put(16, BORROW, 9, 0));
+            x.cut();
+            Due.fails(x, STATE, "the 17th: add(3, 9, 0)", () -> x.add(BORROW, 9, 0));
+        }
         Due.is("one for another: put(0, 3, 9, 3)", x.put(0, BORROW, 9, 3), BORROW);
         Due.is("one for another: put(15, 3, 9, 3)", x.put(15, BORROW, 9, 3), LEND);
         Due.is("one for another: put(1, 4, 12, 3)", x.put(1, LEND, 12, 3), BORROW);

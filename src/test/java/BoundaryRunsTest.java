@@ -5,6 +5,7 @@
 public final class BoundaryRunsTest implements Words {
     public static void main(String[] args) {
         t2PartsWithBAndOneMore();
+        t1FirstAndLastVariable();
         t2AboveZero();
         t2RoundsOfALoop();
         t6BelowZero();
@@ -96,6 +97,28 @@ public final class BoundaryRunsTest implements Words {
         runIs("b is -1", z, PANICKED, 1, 0, told(OF_BOX, -1, 1), told(OF_BOX, 0, 1));
         z.put(0, MAKE, 0, -2);
         runIs("b is -2", z, ABORTED, 1, 0, told(OF_BOX, -2, 1), told(OF_BOX, -1, 1));
+    }
+
+    /** Term 1: "VARIABLES: at most 8": the PLACES of the last one, and of the first one, in a RUN. */
+    private static void t1FirstAndLastVariable() {
+        DropflagMill x = mill(kinds(PAIR, PAIR, PAIR, PAIR, PAIR, PAIR, COUNTED, PAIR), line(MAKE, 0, 1), line(MAKE, 21, 11),
+            line(MAKE, 18, 7), line(MOVE, 1, 23), line(WRITE, 22, 12), line(MAKE, 23, 5), line(READ, 22), line(READ, 23),
+            line(READ, 21), line(READ, 0));
+        runIs("8 VARIABLES", x, ENDED, NONE, 0, told(OF_BOX, 1, 3), told(BY_READ, 12, 6), told(BY_READ, 5, 7),
+            told(BY_READ, 17, 8), told(BY_READ, 14, 9), told(OF_BOX, 12, 10), told(OF_BOX, 5, 10), told(OF_NODE, 7, 10),
+            told(OF_BOX, 12, 10), told(OF_BOX, 2, 10));
+        Due.is("ofRun(3)", x.ofRun(3), 5);
+        Due.is("ofRun(4)", x.ofRun(4), 1);
+        // all that 8 PAIRS have
+        DropflagMill y = mill(kinds(PAIR, PAIR, PAIR, PAIR, PAIR, PAIR, PAIR, PAIR));
+        for (int v = 0; v < 8; v++) {
+            y.add(MAKE, 3 * v, 10 * v);
+        }
+        Due.is("run()", y.run(), ENDED);
+        Due.is("ofRun(5)", y.ofRun(5), 16);
+        for (int k = 0; k < 16; k++) {
+            Due.is("told(" + k + ", 1)", y.told(k, 1), 10 * (7 - k / 2) + k % 2);
+        }
     }
 
     /** Term 2: "IF the NUMBER a is above 0". */
@@ -220,6 +243,12 @@ public final class BoundaryRunsTest implements Words {
         runIs("to the same other one again", x, ENDED, NONE, 0, told(OF_NODE, 1, 6), told(OF_NODE, 2, 6));
         x.add(LINK, 3, 0);
         runIs("a ring of two", x, ENDED, NONE, 2);
+        // what a LINE ahead let go of has nothing to do with what LINK lets down
+        DropflagMill y = mill(kinds(COUNTED, COUNTED, NUMBER, BOX), line(MAKE, 0, 1), line(MAKE, 3, 2), line(LINK, 0, 3), line(DROP, 3),
+            line(MAKE, 3, 3), line(MAKE, 6, 1), line(MAKE, 6, 2), line(LINK, 0, 3), line(LINK, 0, 3), line(MAKE, 9, 1),
+            line(MAKE, 9, 2), line(LINK, 0, 0));
+        runIs("LINKS anew behind other LINES", y, ENDED, NONE, 1, told(OF_NODE, 2, 7), told(OF_BOX, 1, 10), told(OF_BOX, 2, 12),
+            told(OF_NODE, 3, 12));
     }
 
     /** Term 6: "of a PAIR both together", "what an ALONE has a LOAN of (of a PAIR both) becomes b". */

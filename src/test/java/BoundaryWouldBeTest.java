@@ -10,17 +10,21 @@ public final class BoundaryWouldBeTest implements Words {
         p19WithoutTheOnlyLine();
         p19ThoseBehindItOneLess();
         p19NotWhole();
+        p19AsToldAnew();
         p20NoSuchLineOrPlace();
         p20ZeroWithoutOne();
         p20NotWhole();
         p20All32();
+        p20AsToldAnew();
         p21NoSuchLine();
         p21NoneIfThereWereFaults();
         p21DeadAndTooLong();
+        p21AsToldAnew();
         p22NoSuchLineThatIs();
         p22NumberIsNot();
         p22NoneIfThereAreFaults();
         p22FirstNamedException();
+        p22AsToldAnew();
         p23OfNothing();
         p23WrapsAround();
         p23IfThereAreLines();
@@ -47,6 +51,30 @@ public final class BoundaryWouldBeTest implements Words {
 
     private static int[] line(int sort) {
         return new int[] {sort, 0, 0};
+    }
+
+    private static final int[] RICH_KINDS = {NUMBER, BOX, PAIR, SHARED, ALONE, COUNTED, COUNTED};
+
+    /** LINES of all SORTS, each with its own a and b. */
+    private static final int[][] RICH_LINES = {line(MAKE, 0, 2), line(MAKE, 3, -5), line(MAKE, 6, 8), line(MAKE, 15, 4),
+        line(COPY, 18, 15), line(LOOP, 2), line(IF, 0), line(STEP, 0, -1), line(ELSE), line(PANIC), line(END), line(BORROW, 9, 7),
+        line(COPY, 9, 9), line(READ, 9), line(END), line(LEND, 12, 8), line(MOVE, 12, 12), line(WRITE, 12, 3), line(HOLD, 15),
+        line(LET_GO, 18), line(LINK, 18, 15), line(DROP, 18), line(MOVE, 3, 7), line(READ, 8), line(READ, 3)};
+
+    private static DropflagMill rich() {
+        return mill(RICH_KINDS, RICH_LINES);
+    }
+
+    /** RICH_LINES told anew: without the LINE if there is none to tell, otherwise with that in its place. */
+    private static DropflagMill richBut(int line, int[] instead) {
+        DropflagMill x = mill(RICH_KINDS);
+        for (int at = 0; at < RICH_LINES.length; at++) {
+            int[] each = at == line ? instead : RICH_LINES[at];
+            if (each != null) {
+                x.add(each[0], each[1], each[2]);
+            }
+        }
+        return x;
     }
 
     /** A mill with 32 LINES: a MAKE of a BOX, READS of it, and a DROP as the last one. */
@@ -111,6 +139,27 @@ public final class BoundaryWouldBeTest implements Words {
         Due.is("WHOLE again: faultsWithout(5)", x.faultsWithout(5), 4);
         Due.is("WHOLE again: faultsWithout(4)", x.faultsWithout(4), 4);
         Due.is("not WHOLE still: faultsWithout(0)", x.faultsWithout(0), 1);
+    }
+
+    /** Promise 19: "how many FAULTS there would be without that": as many as if it had never been told. */
+    private static void p19AsToldAnew() {
+        DropflagMill x = rich();
+        int most = 0;
+        for (int at = 0; at < RICH_LINES.length; at++) {
+            int due = richBut(at, null).many(2);
+            most = Math.max(most, due);
+            Due.is("faultsWithout(" + at + ")", x.faultsWithout(at), due);
+        }
+        Due.is("many(2)", x.many(2), 0);
+        Due.is("without the MAKE of the PAIR: the most FAULTS", most, 4);
+        // each LINE behind keeps its a and its b
+        int[] kinds = kinds(BOX, BOX, BOX, SHARED, PAIR);
+        DropflagMill y = mill(kinds, line(MAKE, 0, 1), line(MAKE, 3, 2), line(READ, 0), line(MOVE, 6, 0), line(READ, 6),
+            line(BORROW, 9, 6), line(MAKE, 12, 1), line(READ, 9));
+        int[] due = {2, 0, 0, 2, 0, 1, 0, 0};
+        for (int at = 0; at < due.length; at++) {
+            Due.is("faultsWithout(" + at + ") of few", y.faultsWithout(at), due[at]);
+        }
     }
 
     /** Promise 20: "Throws IndexOutOfBoundsException if there is no such LINE, or PLACE that is OWNED". */
@@ -189,6 +238,39 @@ public final class BoundaryWouldBeTest implements Words {
         Due.is("behind all: couldDrop(32, 0)", y.couldDrop(32, 0), 0);
     }
 
+    /** Promise 20: "which FAULT a DROP of that there would have (ahead of that LINE, all others 1 more)". */
+    private static void p20AsToldAnew() {
+        DropflagMill x = rich();
+        int[] seen = new int[6];
+        for (int at = 0; at <= RICH_LINES.length; at++) {
+            for (int place : new int[] {3, 6, 7, 8, 15, 18}) {
+                DropflagMill y = mill(RICH_KINDS);
+                for (int k = 0; k < at; k++) {
+                    y.add(RICH_LINES[k][0], RICH_LINES[k][1], RICH_LINES[k][2]);
+                }
+                y.add(DROP, place, 0);
+                for (int k = at; k < RICH_LINES.length; k++) {
+                    y.add(RICH_LINES[k][0], RICH_LINES[k][1], RICH_LINES[k][2]);
+                }
+                int due = 0;
+                for (int k = 0; k < y.many(2); k++) {
+                    due = y.fault(k, 1) == at ? y.fault(k, 0) : due;
+                }
+                seen[due]++;
+                Due.is("couldDrop(" + at + ", " + place + ")", x.couldDrop(at, place), due);
+            }
+        }
+        for (int fault = 0; fault <= 3; fault++) {
+            Due.is("some with " + fault, seen[fault] > 0, true);
+        }
+        // a LINE behind keeps its b: it is what USES the BORROW
+        DropflagMill z = mill(kinds(BOX, SHARED, SHARED), line(MAKE, 0, 1), line(BORROW, 3, 0), line(READ, 0), line(COPY, 6, 3));
+        int[] due = {1, 0, 3, 3, 0};
+        for (int at = 0; at < due.length; at++) {
+            Due.is("couldDrop(" + at + ", 0)", z.couldDrop(at, 0), due[at]);
+        }
+    }
+
     /** Promise 21: "Throws IndexOutOfBoundsException if there is no such LINE". */
     private static void p21NoSuchLine() {
         DropflagMill x = mill(kinds(COUNTED), line(MAKE, 0, 1), line(LINK, 0, 0));
@@ -233,6 +315,19 @@ public final class BoundaryWouldBeTest implements Words {
             line(MAKE, 3, 1), line(READ, 3), line(END), line(END), line(END), line(END), line(READ, 0));
         Due.is("too many STEPS: leakedBy(11)", z.leakedBy(11), 2);
         Due.is("just one of them: leakedBy(5)", z.leakedBy(5), 0);
+    }
+
+    /** Promise 21: "what LEAKED would be, if that LINE was a PANIC": as if it had been told so. */
+    private static void p21AsToldAnew() {
+        DropflagMill x = rich();
+        for (int at = 0; at < RICH_LINES.length; at++) {
+            DropflagMill y = richBut(at, line(PANIC));
+            boolean hasFaults = y.many(2) > 0;
+            if (!hasFaults) {
+                y.run();
+            }
+            Due.is("leakedBy(" + at + ")", x.leakedBy(at), hasFaults ? NONE : y.ofRun(7));
+        }
     }
 
     /** Promise 22: "Throws IndexOutOfBoundsException if there is no such LINE that is" a MAKE or WRITE. */
@@ -300,6 +395,22 @@ public final class BoundaryWouldBeTest implements Words {
         }
     }
 
+    /** Promise 22: "the OUTCOME of a RUN with that as its b": as if it had been told so. */
+    private static void p22AsToldAnew() {
+        DropflagMill x = rich();
+        int[] seen = new int[4];
+        for (int at : new int[] {0, 1, 2, 3, 17}) {
+            for (int number : new int[] {-99, -2, -1, 0, 1, 2, 3, 99}) {
+                int due = richBut(at, line(RICH_LINES[at][0], RICH_LINES[at][1], number)).run();
+                seen[due]++;
+                Due.is("outcomeWith(" + at + ", " + number + ")", x.outcomeWith(at, number), due);
+            }
+        }
+        for (int outcome = ENDED; outcome <= ABORTED; outcome++) {
+            Due.is("some with " + outcome, seen[outcome] > 0, true);
+        }
+    }
+
     private static BigInteger with(BigInteger d, long v) {
         return d.multiply(BigInteger.valueOf(31)).add(BigInteger.valueOf(v));
     }
@@ -347,6 +458,8 @@ public final class BoundaryWouldBeTest implements Words {
         x.cut();
         x.cut();
         Due.is("no LINES any more: digest()", x.digest(), told(x));
+        x.add(PANIC, 0, 0);
+        Due.is("one LINE: digest()", x.digest(), told(x));
         // what is told behind the 60th does not count
         DropflagMill y = mill(kinds(NUMBER), line(MAKE, 0, 1), line(LOOP, 4), line(LOOP, 4), line(READ, 0), line(READ, 0),
             line(READ, 0), line(READ, 0), line(END), line(END));
