@@ -782,6 +782,14 @@ public final class BoundaryCheckTest implements Words {
             Due.is("ofVariable(" + v + ", 2)", x.ofVariable(v, 2), due[v][0]);
             Due.is("ofVariable(" + v + ", 3)", x.ofVariable(v, 3), due[v][1]);
         }
+        // "how many LINES": also DEAD ones, and those of a program that is not WHOLE
+        for (int sort : new int[] {PANIC, END}) {
+            DropflagMill y = mill(kinds(BOX, BOX), line(MAKE, 0, 1), line(sort), line(MOVE, 3, 0), line(READ, 0));
+            Due.is("behind a " + sort + ": ofVariable(0, 2)", y.ofVariable(0, 2), 2);
+            Due.is("behind a " + sort + ": ofVariable(0, 3)", y.ofVariable(0, 3), 1);
+            Due.is("behind a " + sort + ": ofVariable(1, 2)", y.ofVariable(1, 2), 0);
+            Due.is("behind a " + sort + ": ofVariable(1, 3)", y.ofVariable(1, 3), 1);
+        }
         DropflagMill full = mill(kinds(PAIR));
         for (int at = 0; at < 32; at++) {
             full.add(MOVE, 1, 2);
@@ -832,6 +840,12 @@ public final class BoundaryCheckTest implements Words {
         Due.is("again: many(6)", x.many(6), 8);
         x.put(4, PANIC, 0, 0);
         Due.is("4 ahead and 4 behind: many(6)", x.many(6), 4);
+        // "ahead of one LINE": a DEAD one is a LINE, and isWanted() leaves it in
+        x.put(4, READ, 12, 0);
+        x.put(2, PANIC, 0, 0);
+        Due.is("DEAD: ofLine(3, 5)", x.ofLine(3, 5), 1);
+        Due.is("DEAD: isWanted(3, 3)", x.isWanted(3, 3), true);
+        Due.is("2 ahead and 6 behind, that is DEAD: many(6)", x.many(6), 6);
     }
 
     /** "A method that throws an exception changes nothing": promises 7 to 13 and 17, behind a RUN and with FAULTS. */

@@ -527,6 +527,23 @@ public final class BoundaryRunsTest implements Words {
         x.run();
         Due.is("the first one of two: ofRun(8)", x.ofRun(8), 2);
         Due.is("ABORTED: ofRun(0)", x.ofRun(0), ABORTED);
+        // "of the latest RUN": what it was stays, as LINES come and go behind it
+        DropflagMill y = mill(kinds(BOX), line(MAKE, 0, -1), line(READ, 0));
+        y.run();
+        Due.is("of 2 LINES: ofRun(8)", y.ofRun(8), 2);
+        y.add(READ, 0, 0);
+        Due.is("one LINE more: ofRun(8)", y.ofRun(8), 2);
+        Due.is("one LINE more: told(1, 2)", y.told(1, 2), 2);
+        y.cut();
+        y.cut();
+        Due.is("one LINE less: ofRun(8)", y.ofRun(8), 2);
+        Due.is("one LINE less: told(1, 2)", y.told(1, 2), 2);
+        y.cut();
+        y.variable(COUNTED);
+        Due.is("no LINE at all: ofRun(8)", y.ofRun(8), 2);
+        Due.is("no LINE at all: told(1, 2)", y.told(1, 2), 2);
+        Due.is("no LINE at all: told(0, 2)", y.told(0, 2), 1);
+        Due.is("no LINE at all: ofRun(1)", y.ofRun(1), 2);
     }
 
     /** Promise 15: "or 9 how many RUNS there were": those that threw are none, those that did not END are. */

@@ -1,24 +1,59 @@
+import java.io.IOException;
 import java.lang.reflect.Constructor;
 import java.lang.reflect.Field;
 import java.lang.reflect.Method;
 import java.lang.reflect.Modifier;
+import java.nio.file.Files;
+import java.nio.file.Path;
+import java.util.ArrayList;
+import java.util.List;
 import java.util.Set;
 import java.util.TreeSet;
 
-/** The public face is that of the document, no more and no less (rule 1 of LANGUAGE.md). */
+/**
+ * The public face is that of the document, no more and no less (rule 1 of LANGUAGE.md), in its words and its order,
+ * with what "the interface says" ahead of the calls.
+ */
 public final class FaceTest {
-    private static final String[] FACE = {
-        "int variable(int)", "int add(int,int,int)", "int put(int,int,int,int)", "int cut()",
-        "int ofLine(int,int)", "int state(int,int)", "int holds(int,int)", "boolean isWanted(int,int)",
-        "int inTheWay(int,int)", "int ofLoan(int,int)", "int fault(int,int)", "int ofVariable(int,int)",
-        "int run()", "int ofRun(int)", "int told(int,int)", "int many(int)", "double meanRead()",
-        "int faultsWithout(int)", "int couldDrop(int,int)", "int leakedBy(int)", "int outcomeWith(int,int)",
-        "long digest()"
+    private static final String FILE = "src/main/java/DropflagMill.java";
+    private static final String INDEX = "IndexOutOfBoundsException";
+    private static final String ARGUMENT = "IllegalArgumentException";
+    private static final String STATE = "IllegalStateException";
+    private static final String[] HEADS = {
+        "public final class DropflagMill",
+        "public DropflagMill()",
+        "// ---- variables and lines",
+        "public int variable(int kind) throws " + ARGUMENT + ", " + STATE,
+        "public int add(int sort, int a, int b) throws " + ARGUMENT + ", " + STATE,
+        "public int put(int line, int sort, int a, int b) throws " + INDEX + ", " + ARGUMENT + ", " + STATE,
+        "public int cut() throws " + STATE,
+        "public int ofLine(int line, int what) throws " + INDEX + ", " + ARGUMENT,
+        "// ---- what is checked",
+        "public int state(int line, int place) throws " + INDEX,
+        "public int holds(int line, int variable) throws " + INDEX,
+        "public boolean isWanted(int line, int variable) throws " + INDEX,
+        "public int inTheWay(int line, int place) throws " + INDEX,
+        "public int ofLoan(int loan, int what) throws " + INDEX + ", " + ARGUMENT,
+        "public int fault(int k, int what) throws " + INDEX + ", " + ARGUMENT,
+        "public int ofVariable(int variable, int what) throws " + INDEX + ", " + ARGUMENT,
+        "// ---- runs",
+        "public int run() throws " + STATE,
+        "public int ofRun(int what) throws " + ARGUMENT,
+        "public int told(int k, int what) throws " + INDEX + ", " + ARGUMENT,
+        "public int many(int what) throws " + ARGUMENT,
+        "public double meanRead()",
+        "// ---- what would be (nothing is changed)",
+        "public int faultsWithout(int line) throws " + INDEX,
+        "public int couldDrop(int line, int place) throws " + INDEX,
+        "public int leakedBy(int line) throws " + INDEX,
+        "public int outcomeWith(int line, int number) throws " + INDEX + ", " + ARGUMENT,
+        "public long digest()"
     };
 
     private static int wrong = 0;
 
-    public static void main(String[] args) {
+    public static void main(String[] args) throws IOException {
+        headsStandInTheFile();
         Class<?> mill = DropflagMill.class;
         due("is public and final",
             Modifier.isPublic(mill.getModifiers()) && Modifier.isFinal(mill.getModifiers()));
@@ -31,7 +66,7 @@ public final class FaceTest {
                 due("no static " + method, !Modifier.isStatic(method.getModifiers()));
             }
         }
-        due("the methods of the face", found.equals(new TreeSet<>(Set.of(FACE))));
+        due("the methods of the face: " + found, found.equals(methodsOfTheFace()));
         for (Method method : mill.getDeclaredMethods()) {
             if (!Modifier.isPublic(method.getModifiers())) {
                 due("private: " + method, Modifier.isPrivate(method.getModifiers()));
@@ -52,13 +87,41 @@ public final class FaceTest {
         System.exit(wrong == 0 ? 0 : 1);
     }
 
-    private static String told(Method method) {
-        StringBuilder text = new StringBuilder(method.getReturnType() + " " + method.getName() + "(");
-        Class<?>[] types = method.getParameterTypes();
-        for (int i = 0; i < types.length; i++) {
-            text.append(i == 0 ? "" : ",").append(types[i]);
+    /** The document's heads, each once, and in its order. */
+    private static void headsStandInTheFile() throws IOException {
+        String text = Files.readString(Path.of(FILE)).replaceAll("\\s+", " ");
+        int behind = 0;
+        for (String head : HEADS) {
+            String whole = head.startsWith("//") ? " " + head + " public " : " " + head + " { ";
+            int at = text.indexOf(whole);
+            due("in its order: " + head, at >= behind);
+            due("once: " + head, at == text.lastIndexOf(whole));
+            behind = Math.max(behind, at);
         }
-        return text.append(")").toString();
+    }
+
+    /** The heads of methods as told() tells them: without the names of the parameters. */
+    private static Set<String> methodsOfTheFace() {
+        Set<String> methods = new TreeSet<>();
+        for (String head : HEADS) {
+            if (head.matches("public (int|long|double|boolean) .*")) {
+                methods.add(head.substring("public ".length()).replaceAll("int [a-z]+([,)])", "int$1"));
+            }
+        }
+        return methods;
+    }
+
+    private static String told(Method method) {
+        List<String> types = new ArrayList<>();
+        for (Class<?> type : method.getParameterTypes()) {
+            types.add(type.getSimpleName());
+        }
+        List<String> thrown = new ArrayList<>();
+        for (Class<?> type : method.getExceptionTypes()) {
+            thrown.add(type.getSimpleName());
+        }
+        return method.getReturnType() + " " + method.getName() + "(" + String.join(", ", types) + ")"
+            + (thrown.isEmpty() ? "" : " throws " + String.join(", ", thrown));
     }
 
     private static void due(String what, boolean holds) {
